@@ -544,7 +544,6 @@ public final class TraceTier {
 
         void stop() {
             start = NONE;
-            length = 0;
         }
 
         void note(int at, boolean went) {
@@ -786,7 +785,6 @@ public final class TraceTier {
             cameCount = 0;
             for (int v = 0; v < VALUE_LIMIT; v++) {
                 needed[v] = false;
-                constant[v] = false;
             }
         }
 

@@ -3,8 +3,11 @@ final class BeginTest {
     public static void main(String[] args) {
         whatIsSound();
         whatIsNot();
+        fullCode();
+        codeOfBeforeIsForgotten();
         refusedBeginChangesNothing();
         beginsAnew();
+        tracesAnew();
         tierFalse();
         Due.finish();
     }
@@ -54,6 +57,29 @@ final class BeginTest {
         unsound("a way that is never gone", Due.CONST, 1, Due.IF, 3, Due.ADD, 0, Due.HALT, 0);
     }
 
+    private static void fullCode() {
+        TraceTier x = new TraceTier();
+        for (int i = 0; i < 20; i++) {
+            Due.append(x, Due.LOAD, 0, Due.DROP, 0);
+        }
+        Due.argument("a way behind the fortieth", () -> x.begin(0, 0, true));
+        x.clear();
+        for (int i = 0; i < 19; i++) {
+            Due.append(x, Due.LOAD, 0, Due.DROP, 0);
+        }
+        Due.append(x, Due.GOTO, 39, Due.GOTO, 0);
+        Due.isTrue("forty that can all be reached", !x.begin(0, 0, true));
+        Due.same("they run", x.run(500), 500);
+        Due.place("too long a loop", x, 0, 3, 2);
+    }
+
+    private static void codeOfBeforeIsForgotten() {
+        TraceTier x = Due.with(Due.HALT, 0, Due.HALT, 0, Due.HALT, 0);
+        x.clear();
+        x.add(Due.CONST, 1);
+        Due.argument("no HALT behind it any more", () -> x.begin(0, 0, true));
+    }
+
     private static void refusedBeginChangesNothing() {
         TraceTier x = Due.with(Due.CONST, 1);
         Due.argument("unsound at first", () -> x.begin(4, 5, true));
@@ -88,6 +114,27 @@ final class BeginTest {
         Due.isTrue("fourth begin, in a recording", x.begin(6, 0, true));
         Due.same("nothing recorded", x.count(6), 0);
         Due.place("nothing counted", x, 0, 0, 0);
+    }
+
+    /** Three programs on one object: nothing of an earlier trace is in a later one. */
+    private static void tracesAnew() {
+        TraceTier x = Due.with(
+            Due.LOAD, 0, Due.LOAD, 1, Due.MUL, 0, Due.OUT, 0, Due.LOAD, 2, Due.CONST, 1, Due.ADD, 0, Due.STORE, 2, Due.GOTO, 0);
+        for (int times = 0; times < 3; times++) {
+            x.begin(6, 7, true);
+            x.run(36);
+            Due.trace("begun " + times, x, 0, 0, 1, 1, 0, 1, 5);
+            x.run(2);
+            Due.counts("begun " + times, x, 0, 36, 2, 0, 5, 1, 0);
+            Due.same("begun " + times + ": local 2", x.local(2), 6);
+        }
+        x.clear();
+        Due.append(x, Due.LOAD, 0, Due.LOAD, 1, Due.MUL, 0, Due.DROP, 0, Due.GOTO, 0);
+        x.begin(6, 7, true);
+        x.run(20);
+        Due.trace("what was needed before is not needed now", x, 0, 0, 0, 0, 0, 0, 6);
+        x.run(3);
+        Due.counts("no work", x, 0, 20, 3, 0, 0, 1, 0);
     }
 
     private static void tierFalse() {

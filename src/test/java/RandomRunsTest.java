@@ -11,7 +11,7 @@ final class RandomRunsTest {
 
     private final Random random;
     private final PlainTier plain = new PlainTier();
-    private final TraceTier x = new TraceTier();
+    private final TraceTier x;
 
     // What the programs came to, so that the test can't become empty unseen.
     private static int soundOnes;
@@ -24,13 +24,18 @@ final class RandomRunsTest {
     private static int givenUpOnes;
     private static int stackPictures;
 
-    private RandomRunsTest(int seed) {
+    private RandomRunsTest(int seed, TraceTier x) {
         random = new Random(seed);
+        this.x = x;
+        x.clear();
     }
 
     public static void main(String[] args) {
+        // Some programs on one object, so that what an earlier one leaves behind would be seen.
+        TraceTier x = new TraceTier();
         for (int seed = 0; seed < PROGRAMS; seed++) {
-            new RandomRunsTest(seed).runOnce("program " + seed);
+            x = seed % 10 == 0 ? new TraceTier() : x;
+            new RandomRunsTest(seed, x).runOnce("program " + seed);
         }
         System.out.println(soundOnes + " sound, " + unsoundOnes + " not; " + tracesMade + " traces, " + fourOnes
             + " times four; " + turnsMade + " turns, " + leavesMade + " left; " + headsMade + " heads; "
@@ -296,7 +301,7 @@ final class RandomRunsTest {
         }
     }
 
-    /** An IF over a statement: what it goes to is known only behind that, so it is put in later. */
+    /** An IF over some stores and outs, filled up to just where it goes. */
     private void skip(int depth, int deeper) {
         expression(depth, 1);
         int at = here();

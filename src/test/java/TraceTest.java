@@ -90,6 +90,8 @@ final class TraceTest {
             Due.LOAD, 2, Due.CONST, 1, Due.SUB, 0, Due.STORE, 2), 0, 1, 0, 0, 5);
         loop("part of what is needed", code(
             Due.LOAD, 2, Due.CONST, 1, Due.ADD, 0, Due.LOAD, 0, Due.MUL, 0, Due.STORE, 2), 0, 2, 0, 0, 5);
+        loop("right part of what is needed", code(
+            Due.LOAD, 2, Due.LOAD, 2, Due.LOAD, 0, Due.ADD, 0, Due.MUL, 0, Due.STORE, 2), 0, 2, 0, 0, 5);
         loop("a local that stays behind a change", code(Due.LOAD, 0, Due.CONST, 5, Due.STORE, 0, Due.STORE, 0), 0, 0, 0, 0, 6);
     }
 
