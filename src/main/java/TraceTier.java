@@ -371,7 +371,8 @@ public final class TraceTier {
             Arrays.fill(depthBefore, NONE);
             reachedCount = 0;
             boolean sound = reach(0, 0);
-            for (int r = 0; sound && r < reachedCount; r++) {
+            // No instruction is noted twice, so that the size is a bound of what there is to follow.
+            for (int r = 0; sound && r < reachedCount && r < size; r++) {
                 sound = leadsOnWell(reached[r]);
             }
             return sound;

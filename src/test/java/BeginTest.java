@@ -1,153 +1,200 @@
-/** Promise 3: begin, and which code is sound. */
+/** Promise 3: begin. Which code is sound is asked by SoundTest. */
 final class BeginTest {
+    /** Leaves six on the stack, all locals changed, and something given out. */
+    private static final String LEAVES_MUCH = "CONST 11, STORE 2, CONST 12, STORE 3, CONST 13, STORE 4, CONST 14, "
+        + "STORE 5, CONST 15, STORE 0, CONST 16, STORE 1, CONST 5, OUT, CONST 1, DUP, DUP, DUP, DUP, DUP, HALT";
+
     public static void main(String[] args) {
-        whatIsSound();
-        whatIsNot();
-        fullCode();
-        codeOfBeforeIsForgotten();
-        refusedBeginChangesNothing();
-        beginsAnew();
-        tracesAnew();
-        tierFalse();
+        Due.test("Begins the program: A PROGRAM runs from instruction 0.", BeginTest::fromInstructionZero);
+        Due.test("all locals 0 but 0 and 1, which are a and b", BeginTest::locals);
+        Due.test("nothing on the stack", BeginTest::nothingOnTheStack);
+        Due.test("nothing [..] given out", BeginTest::nothingGivenOut);
+        Due.test("nothing [..] counted", BeginTest::nothingCounted);
+        Due.test("nothing [..] counted: nothing is given up either", BeginTest::nothingGivenUp);
+        Due.test("nothing [..] recorded", BeginTest::nothingRecorded);
+        Due.test("no traces", BeginTest::noTraces);
+        Due.test("(also when it was begun before): in every state it is as on a new object", BeginTest::asOnANewObject);
+        Due.test("With tier false no count ever grows.", BeginTest::tierFalse);
+        Due.test("With tier false: not the one that was before, either", BeginTest::tierOfThisProgram);
+        Due.test("Answers whether it was begun before.", BeginTest::begunBefore);
+        Due.test("IllegalArgumentException [..] (nothing changes)", BeginTest::refused);
         Due.finish();
     }
 
-    private static void sound(String what, int... code) {
-        Due.isTrue(what + " is sound, and new", !Due.with(code).begin(1, 2, true));
-    }
-
-    private static void unsound(String what, int... code) {
-        TraceTier x = Due.with(code);
-        Due.argument(what, () -> x.begin(1, 2, true));
-        Due.state(what + ": run", () -> x.run(1));
-        Due.same(what + ": local(0)", x.local(0), 0);
-    }
-
-    private static void whatIsSound() {
-        sound("HALT", Due.HALT, 0);
-        sound("HALT with a number left", Due.CONST, 1, Due.HALT, 0);
-        sound("six on the stack", Due.CONST, 1, Due.CONST, 1, Due.CONST, 1, Due.CONST, 1, Due.CONST, 1, Due.CONST, 1, Due.HALT, 0);
-        sound("six by DUP, and SWAP at six", Due.CONST, 1, Due.DUP, 0, Due.DUP, 0, Due.DUP, 0, Due.DUP, 0, Due.DUP, 0, Due.SWAP, 0, Due.HALT, 0);
-        sound("what can't be reached is not looked at", Due.GOTO, 3, Due.ADD, 0, Due.GOTO, 39, Due.HALT, 0);
-        sound("a last instruction that can't be reached", Due.HALT, 0, Due.CONST, 1);
-        sound("a GOTO to itself", Due.GOTO, 0);
-        sound("IF to the next one", Due.CONST, 1, Due.IF, 2, Due.HALT, 0);
-        sound("a GOTO back as the last one", Due.LOAD, 0, Due.DROP, 0, Due.GOTO, 0);
-        sound("two ways of the same depth", Due.LOAD, 0, Due.IF, 4, Due.CONST, 1, Due.GOTO, 5, Due.CONST, 2, Due.OUT, 0, Due.HALT, 0);
-    }
-
-    private static void whatIsNot() {
-        unsound("no instructions");
-        unsound("a way behind the last one", Due.CONST, 1);
-        unsound("an IF as the last one", Due.CONST, 1, Due.IF, 0);
-        unsound("GOTO behind the last one", Due.GOTO, 1);
-        unsound("IF behind the last one", Due.CONST, 0, Due.IF, 3, Due.HALT, 0);
-        int[] takers = {Due.STORE, Due.DUP, Due.DROP, Due.OUT, Due.IF};
-        for (int taker : takers) {
-            unsound("operation " + taker + " with nothing", taker, 1, Due.HALT, 0);
-        }
-        int[] pairTakers = {Due.ADD, Due.SUB, Due.MUL, Due.AND, Due.LESS, Due.EQUAL, Due.SWAP};
-        for (int taker : pairTakers) {
-            unsound("operation " + taker + " with one", Due.CONST, 1, taker, 0, Due.HALT, 0);
-        }
-        unsound("seven on the stack", Due.CONST, 1, Due.CONST, 1, Due.CONST, 1, Due.CONST, 1, Due.CONST, 1, Due.CONST, 1, Due.LOAD, 1, Due.HALT, 0);
-        unsound("seven by DUP", Due.CONST, 1, Due.DUP, 0, Due.DUP, 0, Due.DUP, 0, Due.DUP, 0, Due.DUP, 0, Due.DUP, 0, Due.HALT, 0);
-        unsound("not 0 before the first one", Due.CONST, 1, Due.GOTO, 0);
-        unsound("two depths before one", Due.LOAD, 0, Due.IF, 3, Due.CONST, 1, Due.HALT, 0);
-        unsound("a way that is never gone", Due.CONST, 1, Due.IF, 3, Due.ADD, 0, Due.HALT, 0);
-    }
-
-    private static void fullCode() {
-        TraceTier x = new TraceTier();
-        for (int i = 0; i < 20; i++) {
-            Due.append(x, Due.LOAD, 0, Due.DROP, 0);
-        }
-        Due.argument("a way behind the fortieth", () -> x.begin(0, 0, true));
-        x.clear();
-        for (int i = 0; i < 19; i++) {
-            Due.append(x, Due.LOAD, 0, Due.DROP, 0);
-        }
-        Due.append(x, Due.GOTO, 39, Due.GOTO, 0);
-        Due.isTrue("forty that can all be reached", !x.begin(0, 0, true));
-        Due.same("they run", x.run(500), 500);
-        Due.place("too long a loop", x, 0, 3, 2);
-    }
-
-    private static void codeOfBeforeIsForgotten() {
-        TraceTier x = Due.with(Due.HALT, 0, Due.HALT, 0, Due.HALT, 0);
-        x.clear();
-        x.add(Due.CONST, 1);
-        Due.argument("no HALT behind it any more", () -> x.begin(0, 0, true));
-    }
-
-    private static void refusedBeginChangesNothing() {
-        TraceTier x = Due.with(Due.CONST, 1);
-        Due.argument("unsound at first", () -> x.begin(4, 5, true));
-        Due.same("still open to add", x.add(Due.HALT, 0), 2);
-        Due.isTrue("not begun before", !x.begin(4, 5, true));
-    }
-
-    private static void beginsAnew() {
-        TraceTier x = Due.with(
-            Due.LOAD, 0, Due.DUP, 0, Due.OUT, 0, Due.CONST, 1, Due.SUB, 0, Due.DUP, 0, Due.STORE, 0, Due.IF, 0, Due.CONST, 9, Due.STORE, 4, Due.CONST, 3, Due.HALT, 0);
-        Due.isTrue("first begin", !x.begin(20, -3, true));
-        Due.counts("begun", x, 0, 0, 0, 0, 0, 0, 0);
-        Due.same("local 0", x.local(0), 20);
-        Due.same("local 1", x.local(1), -3);
+    private static void fromInstructionZero() {
+        TraceTier x = Due.with("CONST 3, OUT, HALT");
+        x.begin(0, 0, true);
+        Due.same("the next instruction", x.count(0), 0);
         x.run(500);
-        Due.same("a trace", x.count(5), 1);
-        Due.same("something on the stack", x.top(0), 3);
-        Due.isTrue("second begin", x.begin(2, 8, true));
-        Due.counts("begun again", x, 0, 0, 0, 0, 0, 0, 0);
-        Due.same("local 0", x.local(0), 2);
-        Due.same("local 1", x.local(1), 8);
-        Due.same("local 4", x.local(4), 0);
-        Due.same("outs", x.outs(), 0);
-        Due.index("out(0)", () -> x.out(0));
-        Due.index("top(0)", () -> x.top(0));
-        Due.index("trace(0, 0)", () -> x.trace(0, 0));
-        Due.place("begun again", x, 0, 0, 0);
-        Due.same("it runs from instruction 0", x.run(500), 20);
-        Due.isTrue("third begin, behind HALT", x.begin(6, 0, true));
-        x.run(26);
-        Due.same("recorded", x.count(6), 1);
-        Due.isTrue("fourth begin, in a recording", x.begin(6, 0, true));
-        Due.same("nothing recorded", x.count(6), 0);
-        Due.place("nothing counted", x, 0, 0, 0);
+        x.begin(0, 0, true);
+        Due.same("the next one behind HALT", x.count(0), 0);
+        Due.same("it runs again", x.run(500), 3);
+        x.begin(0, 0, true);
+        x.run(1);
+        x.begin(0, 0, true);
+        Due.same("in the midst", x.count(0), 0);
     }
 
-    /** Three programs on one object: nothing of an earlier trace is in a later one. */
-    private static void tracesAnew() {
-        TraceTier x = Due.with(
-            Due.LOAD, 0, Due.LOAD, 1, Due.MUL, 0, Due.OUT, 0, Due.LOAD, 2, Due.CONST, 1, Due.ADD, 0, Due.STORE, 2, Due.GOTO, 0);
-        for (int times = 0; times < 3; times++) {
-            x.begin(6, 7, true);
-            x.run(36);
-            Due.trace("begun " + times, x, 0, 0, 1, 1, 0, 1, 5);
-            x.run(2);
-            Due.counts("begun " + times, x, 0, 36, 2, 0, 5, 1, 0);
-            Due.same("begun " + times + ": local 2", x.local(2), 6);
-        }
-        x.clear();
-        Due.append(x, Due.LOAD, 0, Due.LOAD, 1, Due.MUL, 0, Due.DROP, 0, Due.GOTO, 0);
-        x.begin(6, 7, true);
-        x.run(20);
-        Due.trace("what was needed before is not needed now", x, 0, 0, 0, 0, 0, 0, 6);
+    private static void locals() {
+        TraceTier x = Due.with(LEAVES_MUCH);
+        x.begin(Integer.MIN_VALUE, Integer.MAX_VALUE, true);
+        Due.locals("begun", x, Integer.MIN_VALUE, Integer.MAX_VALUE, 0, 0, 0, 0);
+        x.run(500);
+        Due.locals("run", x, 15, 16, 11, 12, 13, 14);
+        x.begin(-1, 0, true);
+        Due.locals("begun again", x, -1, 0, 0, 0, 0, 0);
+    }
+
+    private static void nothingOnTheStack() {
+        TraceTier x = Due.with(LEAVES_MUCH);
+        x.begin(0, 0, true);
+        x.run(500);
+        Due.same("a number on the stack", x.top(5), 1);
+        x.begin(0, 0, true);
+        Due.stack("begun again", x);
+    }
+
+    private static void nothingGivenOut() {
+        TraceTier x = Due.with("LOAD 0, OUT, LOAD 1, OUT, HALT");
+        x.begin(3, 4, true);
+        x.run(500);
+        Due.outs("run", x, 4, 3);
+        x.begin(5, 6, true);
+        Due.outs("begun again", x);
+        Due.index("out(0)", x, y -> y.out(0));
+        x.run(2);
+        Due.outs("the first one again", x, 5);
+        Due.index("out(1)", x, y -> y.out(1));
+    }
+
+    private static void nothingCounted() {
+        TraceTier x = Due.with("LOAD 0, DROP, GOTO 0");
+        x.begin(1, 1, true);
+        x.run(6);
+        Due.place("two jumps", x, 0, 2, 0);
+        x.begin(1, 1, true);
+        Due.place("begun again", x, 0, 0, 0);
+        Due.counts("begun again", x, 0, 0, 0, 0, 0, 0, 0);
+        x.run(8);
+        Due.place("two jumps again, and two steps", x, 0, 2, 0);
+        Due.same("nothing recorded", x.count(6), 0);
+        x.run(1);
+        Due.same("recorded at the third", x.count(6), 1);
+    }
+
+    private static void nothingGivenUp() {
+        TraceTier x = Due.with("LOAD 0, CONST 1, SUB, DUP, STORE 0, IF 0, HALT");
+        x.begin(4, 0, true);
+        x.run(500);
+        Due.place("given up by HALT", x, 0, 3, 2);
+        x.begin(9, 0, true);
+        Due.place("begun again", x, 0, 0, 0);
+        x.run(24);
+        Due.place("a trace this time", x, 0, 3, 1);
+    }
+
+    private static void nothingRecorded() {
+        TraceTier x = Due.with("LOAD 0, DROP, GOTO 0");
+        x.begin(1, 1, true);
+        x.run(10);
+        Due.same("recorded", x.count(6), 1);
+        x.begin(1, 1, true);
+        Due.same("begun again", x.count(6), 0);
         x.run(3);
-        Due.counts("no work", x, 0, 20, 3, 0, 0, 1, 0);
+        Due.counts("one round, without a trace", x, 0, 3, 0, 0, 0, 0, 0);
+    }
+
+    private static void noTraces() {
+        TraceTier x = State.WHOLE_TURN.made();
+        Due.same("a trace", x.count(5), 1);
+        x.begin(8, 3, true);
+        Due.same("no trace", x.count(5), 0);
+        Due.index("trace(0, 0)", x, y -> y.trace(0, 0));
+        Due.place("begun again", x, 0, 0, 0);
+        x.run(1);
+        Due.counts("an instruction, no turn", x, 1, 1, 0, 0, 0, 0, 0);
+    }
+
+    private static void asOnANewObject() {
+        int[] steps = {1, 38, 44, 52, 53, 55, 56, 500};
+        for (State state : State.values()) {
+            for (int n : steps) {
+                if (state.isBegun()) {
+                    TraceTier x = state.made();
+                    x.begin(8, 3, true);
+                    Due.same("begun when " + state, Shown.of(x), Shown.of(State.BEGUN.made()));
+                    x.run(n);
+                    TraceTier fresh = State.BEGUN.made();
+                    fresh.run(n);
+                    Due.same("begun when " + state + ", " + n + " steps", Shown.of(x), Shown.of(fresh));
+                }
+            }
+        }
     }
 
     private static void tierFalse() {
-        TraceTier x = Due.with(Due.CONST, 1, Due.DROP, 0, Due.GOTO, 0);
+        String[] loops = {"GOTO 0", "CONST 1, DROP, GOTO 0", "CONST 1, IF 0, HALT", "CONST 5, DUP, DROP, GOTO 1"};
+        for (String code : loops) {
+            TraceTier x = Due.with(code);
+            x.begin(0, 0, false);
+            for (int step = 1; step <= 100; step++) {
+                Due.same(code + ": a step", x.run(1), 1);
+                Due.same(code + ": recorded", x.count(6), 0);
+            }
+            Due.same(code + ": instructions", x.count(1), 100);
+            Due.same(code + ": traces", x.count(5), 0);
+            for (int i = 0; i < Due.size(code); i++) {
+                Due.place(code, x, i, 0, 0);
+            }
+        }
+    }
+
+    private static void tierOfThisProgram() {
+        TraceTier x = Due.with("LOAD 0, DROP, GOTO 0");
         x.begin(0, 0, false);
-        Due.same("tier false: run", x.run(500), 500);
-        Due.counts("tier false", x, 2, 500, 0, 0, 0, 0, 0);
-        Due.place("tier false", x, 0, 0, 0);
-        Due.isTrue("again with a tier", x.begin(0, 0, true));
-        x.run(500);
-        Due.same("tier true: traces", x.count(5), 1);
-        Due.isTrue("again without", x.begin(0, 0, false));
-        x.run(500);
-        Due.same("no traces again", x.count(5), 0);
+        x.run(100);
+        x.begin(0, 0, true);
+        x.run(100);
+        Due.same("a tier behind none", x.count(5), 1);
+        x.begin(0, 0, false);
+        x.run(100);
+        Due.same("none behind a tier", x.count(5), 0);
+        Due.place("none behind a tier", x, 0, 0, 0);
+        x.clear();
+        Due.append(x, "LOAD 0, DROP, GOTO 0");
+        x.begin(0, 0, true);
+        x.run(100);
+        Due.same("a tier behind clear", x.count(5), 1);
+    }
+
+    private static void begunBefore() {
+        TraceTier x = Due.with("GOTO 0");
+        Due.isFalse("the first time", x.begin(0, 0, true));
+        Due.isTrue("the second time", x.begin(0, 0, false));
+        x.run(9);
+        Due.isTrue("behind steps", x.begin(0, 0, true));
+        for (State state : State.values()) {
+            if (state == State.CODED || state.isBegun()) {
+                Due.same("when " + state, state.made().begin(1, 2, true) ? 1 : 0, state.isBegun() ? 1 : 0);
+            }
+        }
+        x.clear();
+        x.add(Due.HALT, 0);
+        Due.isFalse("behind clear", x.begin(0, 0, true));
+        TraceTier y = Due.with("CONST 1");
+        Due.throwsExactly("unsound", y, z -> z.begin(0, 0, true), IllegalArgumentException.class);
+        y.add(Due.HALT, 0);
+        Due.isFalse("behind a refused one", y.begin(0, 0, true));
+    }
+
+    private static void refused() {
+        Refused.argument("unsound", State.UNSOUND::made, x -> x.begin(4, 5, true));
+        Refused.argument("no code", State.NEW::made, x -> x.begin(4, 5, true));
+        Refused.argument("no code behind clear", State.CLEARED::made, x -> x.begin(4, 5, false));
+        TraceTier x = State.UNSOUND.made();
+        Due.throwsExactly("begin", x, y -> y.begin(4, 5, true), IllegalArgumentException.class);
+        Due.locals("a and b are not taken", x, 0, 0, 0, 0, 0, 0);
+        Due.same("not begun", x.count(0), TraceTier.NONE);
+        Due.throwsExactly("run", x, y -> y.run(1), IllegalStateException.class);
     }
 }

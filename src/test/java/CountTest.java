@@ -1,120 +1,179 @@
-/** Promise 10: count, and how the head is done only where it must be. */
+/** Promise 10: count. */
 final class CountTest {
+    private static final int NONE = TraceTier.NONE;
+    /** A guard before the only operation of its body; 7 instructions a round. */
+    private static final String GUARD_FIRST = "LOAD 0, IF 3, HALT, LOAD 0, CONST 1, SUB, STORE 0, GOTO 0";
+
     public static void main(String[] args) {
-        wrongWhat();
-        nextInstruction();
-        recordingIsTold();
-        headIsDoneAgain();
-        headBehindAnotherTrace();
-        leftToAnInstructionWithATrace();
+        Due.test("The next instruction (0)", CountTest::next);
+        Due.test("The next instruction (0): behind a whole turn, where the trace begins", CountTest::nextBehindATurn);
+        Due.test("The next instruction (0): when a trace was left, the guard's other way", CountTest::nextWhenLeft);
+        Due.test("NONE when it has halted", CountTest::noneWhenHalted);
+        Due.test("NONE when it [..] was not begun", CountTest::noneWhenNotBegun);
+        Due.test("instructions that the interpreter did (1)", CountTest::instructions);
+        Due.test("whole turns (2)", CountTest::wholeTurns);
+        Due.test("times that a trace was left (3)", CountTest::timesLeft);
+        Due.test("operations, guards and outs that traces did (4)", CountTest::work);
+        Due.test("operations [..] that traces did (4): of the head too, when it is done", CountTest::workOfTheHead);
+        Due.test("a guard that fails too", CountTest::failingGuard);
+        Due.test("operations, guards and outs that traces did (4): none of a trace without any", CountTest::noWork);
+        Due.test("traces (5)", CountTest::traces);
+        Due.test("1 while something is recorded, else 0 (6)", CountTest::recorded);
+        Due.test("IndexOutOfBoundsException, for another what: below", () -> none(-1, -7, Integer.MIN_VALUE));
+        Due.test("IndexOutOfBoundsException, for another what: above", () -> none(7, 8, Integer.MAX_VALUE));
         Due.finish();
     }
 
-    private static void wrongWhat() {
-        TraceTier x = Due.begun(0, 0, Due.HALT, 0);
-        Due.index("count(-1)", () -> x.count(-1));
-        Due.index("count(7)", () -> x.count(7));
-        Due.index("count(MIN)", () -> x.count(Integer.MIN_VALUE));
-        Due.index("count(MAX)", () -> x.count(Integer.MAX_VALUE));
+    private static void none(int... all) {
+        for (int what : all) {
+            Refused.index("count(" + what + ")", x -> x.count(what));
+        }
     }
 
-    private static void nextInstruction() {
-        TraceTier x = Due.with(Due.GOTO, 2, Due.HALT, 0, Due.GOTO, 1);
-        Due.same("not begun", x.count(0), TraceTier.NONE);
-        x.begin(0, 0, true);
-        Due.same("begun", x.count(0), 0);
-        x.run(1);
-        Due.same("behind GOTO 2", x.count(0), 2);
-        x.run(1);
-        Due.same("behind GOTO 1", x.count(0), 1);
-        x.run(1);
-        Due.same("halted", x.count(0), TraceTier.NONE);
-        Due.same("instructions", x.count(1), 3);
-    }
-
-    private static void recordingIsTold() {
-        TraceTier x = Due.begun(0, 0, Due.LOAD, 0, Due.DROP, 0, Due.GOTO, 0);
-        x.run(8);
-        Due.same("before the third jump", x.count(6), 0);
-        for (int s = 0; s < 3; s++) {
+    private static void next() {
+        TraceTier x = Due.begun(0, 0, "GOTO 2, HALT, CONST 1, IF 1, HALT");
+        int[] way = {0, 2, 3, 1};
+        for (int due : way) {
+            Due.same("on the way", x.count(0), due);
             x.run(1);
-            Due.same("recorded", x.count(6), 1);
-            Due.same("no trace yet", x.count(5), 0);
+        }
+        TraceTier y = State.RECORDED.made();
+        Due.same("recorded", y.count(0), 5);
+    }
+
+    private static void nextBehindATurn() {
+        TraceTier x = Due.run(2 + 4 * 10 + 1, 0, 0,
+            "LOAD 5, DROP, LOAD 0, CONST 1, ADD, STORE 0, LOAD 5, DROP, LOAD 5, DROP, CONST 1, IF 2, HALT");
+        Due.counts("a whole turn", x, 2, 42, 1, 0, 1, 1, 0);
+    }
+
+    private static void nextWhenLeft() {
+        Due.same("the one behind the IF", State.LEFT.made().count(0), 11);
+        TraceTier x = Due.run(4 * 10, 0, 5,
+            "LOAD 0, LOAD 1, EQUAL, IF 10, LOAD 0, CONST 1, ADD, STORE 0, GOTO 9, GOTO 0, HALT");
+        Due.same("a whole turn", x.run(1), 1);
+        Due.same("left", x.run(1), 1);
+        Due.counts("the one that the IF goes to", x, 10, 40, 1, 1, 5, 1, 0);
+    }
+
+    private static void noneWhenHalted() {
+        Due.same("halted", State.HALTED.made().count(0), NONE);
+        TraceTier x = Due.run(1, 0, 0, "HALT, GOTO 0");
+        Due.same("HALT at 0", x.count(0), NONE);
+        x.run(5);
+        Due.same("still", x.count(0), NONE);
+    }
+
+    private static void noneWhenNotBegun() {
+        for (State state : State.values()) {
+            if (!state.isBegun()) {
+                Due.same("when " + state, state.made().count(0), NONE);
+            }
+        }
+        TraceTier x = State.UNSOUND.made();
+        Due.throwsExactly("begin", x, y -> y.begin(1, 1, true), IllegalArgumentException.class);
+        Due.same("behind a refused begin", x.count(0), NONE);
+    }
+
+    private static void instructions() {
+        TraceTier x = Due.begun(8, 3, State.CODE);
+        for (int step = 0; step < 52; step++) {
+            Due.same("before the first turn, recorded ones too", x.count(1), step);
+            x.run(1);
+        }
+        x.run(4);
+        Due.same("turns are none", x.count(1), 52);
+        x.run(2);
+        Due.same("behind what was left", x.count(1), 54);
+        x.run(9);
+        Due.same("HALT is one", x.count(1), 55);
+    }
+
+    private static void wholeTurns() {
+        TraceTier x = State.TRACED.made();
+        for (int turns = 0; turns <= 3; turns++) {
+            Due.same("whole turns", x.count(2), turns);
+            x.run(1);
+        }
+        Due.same("the turn that is left is none", x.count(2), 3);
+    }
+
+    private static void timesLeft() {
+        TraceTier x = State.TRACED.made();
+        x.run(3);
+        Due.same("not yet", x.count(3), 0);
+        x.run(1);
+        Due.same("once", x.count(3), 1);
+        x.run(9);
+        Due.same("HALT by the interpreter leaves none", x.count(3), 1);
+        TraceTier y = Due.run(33, 0, 0, "LOAD 0, CONST 1, ADD, STORE 0, LOAD 0, CONST 3, AND, IF 0, GOTO 0");
+        y.run(3);
+        Due.same("three times", y.count(3), 3);
+    }
+
+    private static void work() {
+        TraceTier x = Due.run(28, 6, 0, GUARD_FIRST);
+        Due.same("no turn yet", x.count(4), 0);
+        x.run(1);
+        Due.same("a guard and an operation", x.count(4), 2);
+        TraceTier y = Due.traced("LOAD 0, OUT, CONST 4, OUT");
+        y.run(3);
+        Due.same("two outs, three times", y.count(4), 6);
+    }
+
+    private static void workOfTheHead() {
+        TraceTier x = State.TRACED.made();
+        Due.same("not when the trace is made", x.count(4), 0);
+        x.run(1);
+        Due.same("head, operation, guard and out", x.count(4), 4);
+        x.run(1);
+        Due.same("without the head", x.count(4), 7);
+    }
+
+    private static void failingGuard() {
+        TraceTier x = Due.run(30, 6, 0, GUARD_FIRST);
+        Due.same("two turns", x.count(4), 4);
+        x.run(1);
+        Due.same("left", x.count(3), 1);
+        Due.same("the guard, not what is behind it", x.count(4), 5);
+        TraceTier y = State.LEFT.made();
+        Due.same("what is before it too", y.count(4), 4 + 3 * 3);
+    }
+
+    private static void noWork() {
+        TraceTier x = Due.traced("LOAD 0, LOAD 1, STORE 0, STORE 1");
+        x.run(3);
+        Due.counts("a swap of locals", x, 0, 20, 3, 0, 0, 1, 0);
+    }
+
+    /** Loops of six instructions, each of which gets its trace. */
+    private static void traces() {
+        TraceTier x = new TraceTier();
+        for (int loop = 0; loop < 4; loop++) {
+            Due.append(x, "CONST 8, STORE 0, LOAD 0, CONST 1, SUB, DUP, STORE 0, IF " + (8 * loop + 2));
+        }
+        x.add(Due.HALT, 0);
+        x.begin(0, 0, true);
+        for (int loop = 0; loop < 4; loop++) {
+            x.run(25);
+            Due.same("recorded", x.count(5), loop);
+            x.run(1);
+            Due.same("recorded to its end", x.count(5), loop + 1);
+            x.run(4);
         }
         x.run(1);
-        Due.same("nothing recorded any more", x.count(6), 0);
-        Due.same("a trace", x.count(5), 1);
-        Due.same("instructions", x.count(1), 12);
-        x.run(5);
-        Due.counts("an empty trace", x, 0, 12, 5, 0, 0, 1, 0);
+        Due.same("halted", x.count(0), NONE);
+        Due.same("all four", x.count(5), 4);
     }
 
-    /** A loop whose product of locals that stay is in the head; local 2 counts to the edge. */
-    private static void headIsDoneAgain() {
-        TraceTier x = Due.begun(6, 7,
-            Due.LOAD, 0, Due.LOAD, 1, Due.MUL, 0, Due.STORE, 3,
-            Due.LOAD, 2, Due.CONST, 1, Due.ADD, 0, Due.DUP, 0, Due.STORE, 2,
-            Due.CONST, 3, Due.AND, 0, Due.IF, 0,
-            Due.LOAD, 3, Due.OUT, 0, Due.GOTO, 0);
-        // The third jump back to 0 is at local 2 = 3; the fourth round is the one with OUT.
-        x.run(12 * 4 + 3);
-        Due.trace("with OUT", x, 0, 0, 1, 2, 1, 1, 4);
-        x.run(1);
-        Due.counts("left at once, the head done", x, 0, 51, 0, 1, 4, 1, 0);
-        x.run(1);
-        Due.counts("left again, the head again", x, 0, 51, 0, 2, 8, 1, 0);
-        x.run(2);
-        Due.counts("and a whole turn", x, 0, 51, 1, 3, 8 + 4 + 5, 1, 0);
-        x.run(1);
-        Due.counts("no head behind a whole turn", x, 0, 51, 1, 4, 17 + 3, 1, 0);
-        Due.same("out", x.out(0), 42);
-        Due.same("outs", x.outs(), 2);
-    }
-
-    /** Two loops with a trace each, one behind the other, in a loop that is given up. */
-    private static void headBehindAnotherTrace() {
-        TraceTier x = Due.begun(3, 4,
-            Due.CONST, 8, Due.STORE, 2,
-            Due.LOAD, 0, Due.LOAD, 1, Due.ADD, 0, Due.STORE, 3,
-            Due.LOAD, 2, Due.CONST, 1, Due.SUB, 0, Due.DUP, 0, Due.STORE, 2, Due.IF, 2,
-            Due.GOTO, 0);
-        x.run(2 + 4 * 10);
-        Due.trace("the inner loop", x, 0, 2, 1, 1, 1, 0, 4);
-        x.run(4);
-        Due.counts("the rest of the inner loop", x, 12, 42, 3, 1, 9, 1, 0);
-        x.run(3);
-        Due.counts("back to the outer loop's inner one", x, 2, 45, 3, 1, 9, 1, 0);
-        x.run(8);
-        Due.counts("the head once more", x, 12, 45, 10, 2, 9 + 1 + 16, 1, 0);
-    }
-
-    /** Both ways of the IF lead to loops with a trace: what is left is gone on with by a turn. */
-    private static void leftToAnInstructionWithATrace() {
-        TraceTier x = Due.begun(9, 0,
-            Due.LOAD, 0, Due.CONST, 1, Due.SUB, 0, Due.STORE, 0,
-            Due.LOAD, 0, Due.CONST, 1, Due.AND, 0, Due.IF, 0, Due.GOTO, 0);
-        // Rounds with local 0 = 8, 7, 6: the third jump back is a GOTO; the recorded one has an odd 5.
-        x.run(9 + 8 + 9 + 8);
-        Due.same("a trace", x.count(5), 1);
-        Due.trace("without the GOTO", x, 0, 0, 0, 2, 1, 0, 5);
-        x.run(1);
-        Due.counts("left for the GOTO", x, 8, 34, 0, 1, 3, 1, 0);
-        x.run(1);
-        Due.counts("the GOTO, which makes no count grow", x, 0, 35, 0, 1, 3, 1, 0);
-        Due.place("the GOTO, which makes no count grow", x, 0, 3, 1);
-        x.run(1);
-        Due.counts("a whole turn", x, 0, 35, 1, 1, 6, 1, 0);
-
-        // Recorded on the way that falls through; the other way is the beginning of the trace.
-        TraceTier y = Due.begun(0, 0,
-            Due.LOAD, 0, Due.CONST, 1, Due.ADD, 0, Due.STORE, 0,
-            Due.LOAD, 0, Due.CONST, 3, Due.AND, 0, Due.IF, 0, Due.GOTO, 0);
-        y.run(3 * 8 + 9);
-        Due.trace("with the GOTO", y, 0, 0, 0, 2, 1, 0, 5);
-        y.run(3);
-        Due.counts("left three times, each to its own beginning", y, 0, 33, 0, 3, 9, 1, 0);
-        y.run(1);
-        Due.counts("a whole turn", y, 0, 33, 1, 3, 12, 1, 0);
-        Due.same("local 0", y.local(0), 8);
+    private static void recorded() {
+        TraceTier x = Due.begun(0, 0, "LOAD 0, DROP, GOTO 0");
+        for (int step = 1; step <= 15; step++) {
+            x.run(1);
+            Due.same("behind step " + step, x.count(6), step >= 9 && step < 12 ? 1 : 0);
+        }
+        for (State state : State.values()) {
+            Due.same("when " + state, state.made().count(6), state == State.RECORDED ? 1 : 0);
+        }
     }
 }

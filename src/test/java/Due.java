@@ -1,4 +1,6 @@
-/** What the tests share: comparing answers, expecting exceptions, and the operations by name. */
+import java.util.function.Consumer;
+
+/** What the tests share: a sentence with its test, comparing answers, and code written as text. */
 final class Due {
     static final int CONST = 0;
     static final int LOAD = 1;
@@ -17,19 +19,39 @@ final class Due {
     static final int IF = 14;
     static final int HALT = 15;
 
+    private static final String[] NAMES = {
+        "CONST", "LOAD", "STORE", "ADD", "SUB", "MUL", "AND", "LESS", "EQUAL", "DUP", "DROP", "SWAP", "OUT", "GOTO",
+        "IF", "HALT"};
+
     private static int wrong = 0;
+    private static int tests = 0;
 
     private Due() {
     }
 
-    /** A call of the face that may throw. */
-    interface Call {
-        void make();
+    /** The test of one sentence of the document; what it throws is a fault, and the next ones are still run. */
+    static void test(String sentence, Runnable test) {
+        int before = wrong;
+        tests++;
+        try {
+            test.run();
+        } catch (RuntimeException e) {
+            fail("the test ended with " + e);
+        }
+        if (wrong > before) {
+            System.out.println("  BROKEN: " + sentence);
+        }
     }
 
     static void same(String what, long got, long want) {
         if (got != want) {
             fail(what + " answered " + got + ", due is " + want);
+        }
+    }
+
+    static void same(String what, String got, String want) {
+        if (!got.equals(want)) {
+            fail(what + " shows\n    " + got + ", due is\n    " + want);
         }
     }
 
@@ -39,16 +61,8 @@ final class Due {
         }
     }
 
-    static void argument(String what, Call call) {
-        throwsExactly(what, call, IllegalArgumentException.class);
-    }
-
-    static void state(String what, Call call) {
-        throwsExactly(what, call, IllegalStateException.class);
-    }
-
-    static void index(String what, Call call) {
-        throwsExactly(what, call, IndexOutOfBoundsException.class);
+    static void isFalse(String what, boolean got) {
+        isTrue("not " + what, !got);
     }
 
     static void fail(String text) {
@@ -56,32 +70,74 @@ final class Due {
         System.out.println(text);
     }
 
-    /** A new object with this code: an operation and its operand, by turns. */
-    static TraceTier with(int... code) {
+    /** That a call throws exactly this; that it changes nothing is asked by Refused. */
+    static void index(String what, TraceTier x, Consumer<TraceTier> call) {
+        throwsExactly(what, x, call, IndexOutOfBoundsException.class);
+    }
+
+    static void throwsExactly(String what, TraceTier x, Consumer<TraceTier> call, Class<?> due) {
+        try {
+            call.accept(x);
+        } catch (RuntimeException e) {
+            if (e.getClass() != due) {
+                fail(what + " throws " + e.getClass().getName() + ", due is " + due.getName());
+            }
+            return;
+        }
+        fail(what + " throws nothing, due is " + due.getName());
+    }
+
+    /** A new object with this code, as in "LOAD 0, CONST 1, ADD, STORE 0, GOTO 0". */
+    static TraceTier with(String code) {
         TraceTier x = new TraceTier();
         append(x, code);
         return x;
     }
 
-    static void append(TraceTier x, int... code) {
-        for (int i = 0; i < code.length; i += 2) {
-            x.add(code[i], code[i + 1]);
+    static void append(TraceTier x, String code) {
+        if (code.isEmpty()) {
+            return;
+        }
+        for (String instruction : code.split(", ")) {
+            String[] parts = instruction.split(" ");
+            x.add(operation(parts[0]), parts.length > 1 ? Integer.parseInt(parts[1]) : 0);
         }
     }
 
-    static TraceTier begun(int a, int b, int... code) {
+    static TraceTier begun(int a, int b, String code) {
         TraceTier x = with(code);
         x.begin(a, b, true);
         return x;
     }
 
-    /** What trace(t, 0 .. 5) and count(0 .. 6) answer. */
+    /** Begun, and so many steps made. */
+    static TraceTier run(int steps, int a, int b, String code) {
+        TraceTier x = begun(a, b, code);
+        same("the steps that lead there", x.run(steps), steps);
+        return x;
+    }
+
+    /** How many instructions a code is. */
+    static int size(String code) {
+        return code.split(", ").length;
+    }
+
+    /** A straight loop from 0, locals 0 and 1 being 6 and 7, behind the round that made its trace. */
+    static TraceTier traced(String body) {
+        String code = body + ", GOTO 0";
+        TraceTier x = run(4 * size(code), 6, 7, code);
+        same(body + ": traces", x.count(5), 1);
+        return x;
+    }
+
+    /** What trace(t, 0 .. 5) answers. */
     static void trace(String what, TraceTier x, int t, int... want) {
         for (int w = 0; w < want.length; w++) {
             same(what + ": trace(" + t + ", " + w + ")", x.trace(t, w), want[w]);
         }
     }
 
+    /** What count(0 .. 6) answers. */
     static void counts(String what, TraceTier x, int... want) {
         for (int w = 0; w < want.length; w++) {
             same(what + ": count(" + w + ")", x.count(w), want[w]);
@@ -93,22 +149,42 @@ final class Due {
         same(what + ": place(" + i + ", 1)", x.place(i, 1), mark);
     }
 
+    static void locals(String what, TraceTier x, int... want) {
+        for (int l = 0; l < want.length; l++) {
+            same(what + ": local(" + l + ")", x.local(l), want[l]);
+        }
+    }
+
+    /** The whole stack, its top first. */
+    static void stack(String what, TraceTier x, int... want) {
+        for (int k = 0; k < want.length; k++) {
+            same(what + ": top(" + k + ")", x.top(k), want[k]);
+        }
+        index(what + ": top(" + want.length + ")", x, y -> y.top(want.length));
+    }
+
+    /** All that was given out, the latest first. */
+    static void outs(String what, TraceTier x, int... want) {
+        same(what + ": outs()", x.outs(), want.length);
+        for (int k = 0; k < want.length; k++) {
+            same(what + ": out(" + k + ")", x.out(k), want[k]);
+        }
+    }
+
     static void finish() {
+        System.out.println(tests + " sentences");
         if (wrong != 0) {
             System.out.println(wrong + " answers are not as due");
             System.exit(1);
         }
     }
 
-    private static void throwsExactly(String what, Call call, Class<?> due) {
-        try {
-            call.make();
-        } catch (RuntimeException e) {
-            if (e.getClass() != due) {
-                fail(what + " throws " + e.getClass().getName() + ", due is " + due.getName());
+    private static int operation(String name) {
+        for (int o = 0; o < NAMES.length; o++) {
+            if (NAMES[o].equals(name)) {
+                return o;
             }
-            return;
         }
-        fail(what + " throws nothing, due is " + due.getName());
+        throw new AssertionError(name);
     }
 }

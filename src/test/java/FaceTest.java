@@ -24,18 +24,27 @@ final class FaceTest {
 
     public static void main(String[] args) {
         Class<?> face = TraceTier.class;
-        Due.isTrue("public and final", face.getModifiers() == (Modifier.PUBLIC | Modifier.FINAL));
-        methods(face);
-        fields(face);
+        Due.test("public final class TraceTier", () -> Due.isTrue("public and final",
+            face.getModifiers() == (Modifier.PUBLIC | Modifier.FINAL)));
+        Due.test("The public face: its methods, and no others", () -> methods(face));
+        Due.test("The public face: NONE, and no other field", () -> fields(face));
+        Due.test("public TraceTier();", () -> constructor(face));
+        Due.test("LANGUAGE.md: the classes inside", () -> classes(face));
+        Due.finish();
+    }
+
+    private static void constructor(Class<?> face) {
         Constructor<?>[] constructors = face.getDeclaredConstructors();
         Due.same("constructors", constructors.length, 1);
         Due.isTrue("the constructor is public and takes nothing",
             Modifier.isPublic(constructors[0].getModifiers()) && constructors[0].getParameterCount() == 0);
+    }
+
+    private static void classes(Class<?> face) {
         Due.isTrue("at most twelve classes", face.getDeclaredClasses().length + 1 <= 12);
         for (Class<?> inside : face.getDeclaredClasses()) {
             inside(face, inside);
         }
-        Due.finish();
     }
 
     private static String told(Method m) {

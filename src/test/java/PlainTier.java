@@ -12,7 +12,7 @@ import java.util.TreeSet;
  * that are worked out from the locals each time. Random runs are compared with it.
  */
 final class PlainTier {
-    final List<int[]> code = new ArrayList<>();
+    final List<int[]> code;
     int[] locals = new int[6];
     List<Integer> stack = new ArrayList<>();
     List<Integer> given = new ArrayList<>();
@@ -30,6 +30,10 @@ final class PlainTier {
     int recordedFrom = -1;
     List<int[]> record = new ArrayList<>();
     Recorded wholeBefore;
+
+    PlainTier(List<int[]> code) {
+        this.code = code;
+    }
 
     /** A value as a term; two are the same when they read the same. */
     record Term(int kind, int number, Term left, Term right) {
@@ -188,6 +192,46 @@ final class PlainTier {
             step();
         }
         return made;
+    }
+
+    /** In the words of Shown. */
+    String shown() {
+        StringBuilder text = new StringBuilder("counts ").append(halted ? -1 : next);
+        int[] told = {instructions, wholeTurns, leaves, work, traces.size(), recordedFrom >= 0 ? 1 : 0};
+        for (int number : told) {
+            text.append(' ').append(number);
+        }
+        text.append("; locals");
+        for (int number : locals) {
+            text.append(' ').append(number);
+        }
+        row(text, "stack", stack, 6);
+        text.append("; outs ").append(given.size());
+        row(text, "given", given, 30);
+        List<Integer> marks = new ArrayList<>();
+        List<Integer> grown = new ArrayList<>();
+        for (int i = code.size() - 1; i >= 0; i--) {
+            grown.add(counts.getOrDefault(i, 0));
+            marks.add(traceAt(i) != null ? 1 : givenUp.contains(i) ? 2 : 0);
+        }
+        row(text, "grown", grown, 40);
+        row(text, "marks", marks, 40);
+        for (Recorded t : traces) {
+            text.append("; trace");
+            for (int w = 0; w < 6; w++) {
+                text.append(' ').append(t.tell(w));
+            }
+        }
+        return text.toString();
+    }
+
+    /** The latest first, at most so many, and none behind them. */
+    private static void row(StringBuilder text, String name, List<Integer> from, int most) {
+        text.append("; ").append(name);
+        for (int k = 0; k < most && k < from.size(); k++) {
+            text.append(' ').append(from.get(from.size() - 1 - k));
+        }
+        text.append(" IndexOutOfBoundsException");
     }
 
     Recorded traceAt(int place) {

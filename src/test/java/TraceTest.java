@@ -1,170 +1,161 @@
-/** Promise 12: trace; how values are folded, shared, taken out of the loop or left out. */
+/** Promise 12: trace. How a trace is made is asked by ValuesTest. */
 final class TraceTest {
     public static void main(String[] args) {
-        edges();
-        folded();
-        shared();
-        leftOut();
-        takenOut();
-        guards();
-        pictures();
-        outs();
-        inOrder();
+        Due.test("from 0 in the order in which they were made", TraceTest::inOrder);
+        Due.test("the instruction where it begins (0)", TraceTest::begins);
+        Due.test("operations in its head (1)", TraceTest::head);
+        Due.test("[operations] in its body (2)", TraceTest::body);
+        Due.test("guards (3)", TraceTest::guards);
+        Due.test("outs (4)", TraceTest::outs);
+        Due.test("locals that stay (5): all, some and none", TraceTest::stay);
+        Due.test("Of trace t: what is told of it does not change", TraceTest::stays);
+        Due.test("when there is none of these: no trace yet", TraceTest::noTraceYet);
+        Due.test("when there is none of these: behind the last trace", TraceTest::behindTheLast);
+        Due.test("when there is none of these: a fifth trace", TraceTest::aFifth);
+        Due.test("when there is none of these: below 0", TraceTest::below);
+        Due.test("when there is none of these: another what", TraceTest::wrongWhat);
         Due.finish();
     }
 
-    private static void edges() {
-        TraceTier x = Due.begun(0, 0, Due.LOAD, 0, Due.DROP, 0, Due.GOTO, 0);
-        Due.index("trace(0, 0) before there is one", () -> x.trace(0, 0));
-        x.run(20);
-        Due.trace("an empty one", x, 0, 0, 0, 0, 0, 0, 6);
-        Due.index("trace(1, 0)", () -> x.trace(1, 0));
-        Due.index("trace(-1, 0)", () -> x.trace(-1, 0));
-        Due.index("trace(4, 0)", () -> x.trace(4, 0));
-        Due.index("trace(MAX, 0)", () -> x.trace(Integer.MAX_VALUE, 0));
-        Due.index("trace(0, -1)", () -> x.trace(0, -1));
-        Due.index("trace(0, 6)", () -> x.trace(0, 6));
-        Due.index("trace(0, MIN)", () -> x.trace(0, Integer.MIN_VALUE));
+    /** The loop at 8 comes first, then the one at 1. */
+    private static TraceTier two() {
+        return Due.run(60, 6, 0, "GOTO 8, LOAD 1, CONST 1, ADD, STORE 1, LOAD 1, OUT, GOTO 1, "
+            + "LOAD 0, CONST 1, SUB, DUP, STORE 0, IF 8, GOTO 1");
     }
 
-    /** Runs a straight loop until it has its trace, which begins at 0; locals 0 and 1 are 6, 7. */
-    private static TraceTier loop(String what, int[] code, int head, int body, int guards, int outs, int stays) {
-        TraceTier x = Due.with(code);
-        int size = x.add(Due.GOTO, 0);
-        x.begin(6, 7, true);
-        x.run(4 * size);
-        Due.same(what + ": traces", x.count(5), 1);
-        if (x.count(5) == 1) {
-            Due.trace(what, x, 0, 0, head, body, guards, outs, stays);
-        }
-        return x;
-    }
-
-    private static int[] code(int... code) {
-        return code;
-    }
-
-    private static void folded() {
-        loop("numbers are folded", code(Due.LOAD, 2, Due.CONST, 2, Due.CONST, 3, Due.ADD, 0, Due.ADD, 0, Due.STORE, 2), 0, 1, 0, 0, 5);
-        loop("a folded number is that number", code(
-            Due.LOAD, 0, Due.CONST, 2, Due.CONST, 3, Due.ADD, 0, Due.MUL, 0, Due.STORE, 3,
-            Due.LOAD, 0, Due.CONST, 5, Due.MUL, 0, Due.STORE, 4), 1, 0, 0, 0, 4);
-        loop("a folded LESS is the number 1", code(
-            Due.LOAD, 0, Due.CONST, 1, Due.CONST, 2, Due.LESS, 0, Due.ADD, 0, Due.STORE, 3,
-            Due.LOAD, 0, Due.CONST, 1, Due.ADD, 0, Due.STORE, 4), 1, 0, 0, 0, 4);
-        loop("a number in a local is a number", code(
-            Due.CONST, 2, Due.STORE, 3, Due.LOAD, 3, Due.CONST, 9, Due.MUL, 0, Due.STORE, 4), 0, 0, 0, 0, 4);
-        loop("the same local twice is no number", code(Due.LOAD, 0, Due.LOAD, 0, Due.EQUAL, 0, Due.STORE, 2), 1, 0, 0, 0, 5);
-        loop("times 0 is no number", code(Due.LOAD, 0, Due.CONST, 0, Due.MUL, 0, Due.STORE, 2), 1, 0, 0, 0, 5);
-        TraceTier x = loop("folding wraps", code(
-            Due.CONST, 32767, Due.CONST, 32767, Due.MUL, 0, Due.DUP, 0, Due.ADD, 0, Due.DUP, 0, Due.ADD, 0,
-            Due.STORE, 2, Due.LOAD, 3, Due.LOAD, 2, Due.ADD, 0, Due.STORE, 3), 0, 1, 0, 0, 4);
-        int by = 32767 * 32767 * 4;
-        int before = x.local(3);
-        x.run(1);
-        Due.same("folding wraps: local 3", x.local(3), before + by);
-        Due.same("folding wraps: local 2", x.local(2), by);
-    }
-
-    private static void shared() {
-        loop("the same operation twice", code(
-            Due.LOAD, 2, Due.CONST, 4, Due.ADD, 0, Due.LOAD, 2, Due.CONST, 4, Due.ADD, 0, Due.MUL, 0, Due.STORE, 2), 0, 2, 0, 0, 5);
-        loop("in the other order it is another", code(
-            Due.LOAD, 0, Due.LOAD, 1, Due.ADD, 0, Due.STORE, 2, Due.LOAD, 1, Due.LOAD, 0, Due.ADD, 0, Due.STORE, 3), 2, 0, 0, 0, 4);
-        loop("of another kind it is another", code(
-            Due.LOAD, 0, Due.LOAD, 1, Due.ADD, 0, Due.STORE, 2, Due.LOAD, 0, Due.LOAD, 1, Due.SUB, 0, Due.STORE, 3), 2, 0, 0, 0, 4);
-        loop("with another number it is another", code(
-            Due.LOAD, 0, Due.CONST, 1, Due.ADD, 0, Due.STORE, 2, Due.LOAD, 0, Due.CONST, 0, Due.ADD, 0, Due.STORE, 3), 2, 0, 0, 0, 4);
-        loop("a copied local is the same value", code(
-            Due.LOAD, 0, Due.STORE, 4, Due.LOAD, 0, Due.LOAD, 1, Due.ADD, 0, Due.STORE, 2,
-            Due.LOAD, 4, Due.LOAD, 1, Due.ADD, 0, Due.STORE, 3), 1, 0, 0, 0, 3);
-        loop("a local that was changed is another value", code(
-            Due.LOAD, 2, Due.CONST, 1, Due.ADD, 0, Due.STORE, 2, Due.LOAD, 2, Due.CONST, 1, Due.ADD, 0, Due.STORE, 2), 0, 2, 0, 0, 5);
-    }
-
-    private static void leftOut() {
-        loop("dropped", code(Due.LOAD, 0, Due.LOAD, 1, Due.MUL, 0, Due.DROP, 0), 0, 0, 0, 0, 6);
-        loop("stored over", code(Due.LOAD, 2, Due.CONST, 1, Due.ADD, 0, Due.STORE, 2, Due.CONST, 0, Due.STORE, 2), 0, 0, 0, 0, 5);
-        loop("part of what is dropped", code(
-            Due.LOAD, 2, Due.CONST, 1, Due.ADD, 0, Due.LOAD, 0, Due.MUL, 0, Due.DROP, 0,
-            Due.LOAD, 2, Due.CONST, 1, Due.SUB, 0, Due.STORE, 2), 0, 1, 0, 0, 5);
-        loop("part of what is needed", code(
-            Due.LOAD, 2, Due.CONST, 1, Due.ADD, 0, Due.LOAD, 0, Due.MUL, 0, Due.STORE, 2), 0, 2, 0, 0, 5);
-        loop("right part of what is needed", code(
-            Due.LOAD, 2, Due.LOAD, 2, Due.LOAD, 0, Due.ADD, 0, Due.MUL, 0, Due.STORE, 2), 0, 2, 0, 0, 5);
-        loop("a local that stays behind a change", code(Due.LOAD, 0, Due.CONST, 5, Due.STORE, 0, Due.STORE, 0), 0, 0, 0, 0, 6);
-    }
-
-    private static void takenOut() {
-        loop("a sum of locals that stay", code(
-            Due.LOAD, 0, Due.LOAD, 1, Due.ADD, 0, Due.LOAD, 2, Due.MUL, 0, Due.STORE, 2), 1, 1, 0, 0, 5);
-        loop("a sum of such and a number", code(
-            Due.LOAD, 0, Due.LOAD, 1, Due.ADD, 0, Due.CONST, 3, Due.MUL, 0, Due.STORE, 2), 2, 0, 0, 0, 5);
-        loop("a local that becomes another one's value", code(
-            Due.LOAD, 1, Due.CONST, 1, Due.ADD, 0, Due.STORE, 2, Due.LOAD, 0, Due.STORE, 1), 0, 1, 0, 0, 4);
-        loop("a local that becomes a number", code(
-            Due.LOAD, 2, Due.LOAD, 0, Due.ADD, 0, Due.STORE, 3, Due.CONST, 0, Due.STORE, 2), 0, 1, 0, 0, 4);
-        loop("a local whose change comes later", code(
-            Due.LOAD, 0, Due.CONST, 2, Due.MUL, 0, Due.STORE, 3, Due.LOAD, 0, Due.CONST, 1, Due.ADD, 0, Due.STORE, 0), 0, 2, 0, 0, 4);
-    }
-
-    private static void guards() {
-        loop("on a number", code(Due.CONST, 1, Due.IF, 2, Due.CONST, 0, Due.IF, 0), 0, 0, 0, 0, 6);
-        loop("on a folded number", code(Due.CONST, 1, Due.CONST, 2, Due.LESS, 0, Due.IF, 4), 0, 0, 0, 0, 6);
-        loop("on a local that is not 0", code(Due.LOAD, 0, Due.IF, 2), 0, 0, 1, 0, 6);
-        loop("on a local that is 0", code(Due.LOAD, 5, Due.IF, 2), 0, 0, 1, 0, 6);
-        loop("the same twice", code(Due.LOAD, 0, Due.IF, 2, Due.LOAD, 0, Due.IF, 4), 0, 0, 1, 0, 6);
-        loop("on two locals", code(Due.LOAD, 0, Due.IF, 2, Due.LOAD, 1, Due.IF, 4), 0, 0, 2, 0, 6);
-        loop("on what is shared", code(
-            Due.LOAD, 0, Due.LOAD, 1, Due.LESS, 0, Due.IF, 4, Due.LOAD, 0, Due.LOAD, 1, Due.LESS, 0, Due.IF, 8), 1, 0, 1, 0, 6);
-        TraceTier x = loop("on what is in the head", code(Due.LOAD, 0, Due.LOAD, 1, Due.LESS, 0, Due.IF, 4), 1, 0, 1, 0, 6);
-        x.run(3);
-        Due.same("a guard is done in every turn", x.count(4), 1 + 3);
-        asManyAsCanBe();
-    }
-
-    private static void asManyAsCanBe() {
-        TraceTier x = new TraceTier();
-        for (int g = 0; g < 6; g++) {
-            Due.append(x, Due.LOAD, g, Due.IF, 2 * g + 2);
-        }
-        for (int g = 0; g < 4; g++) {
-            Due.append(x, Due.LOAD, g, Due.LOAD, g, Due.ADD, 0, Due.IF, 16 + 4 * g);
-        }
-        int size = x.add(Due.GOTO, 0);
-        x.begin(1, 0, true);
-        x.run(4 * size);
-        Due.trace("ten guards", x, 0, 0, 4, 0, 10, 0, 6);
-        x.run(10);
-        Due.counts("ten guards", x, 0, 4 * size, 10, 0, 104, 1, 0);
-    }
-
-    private static void pictures() {
-        loop("a stack's value is needed", code(
-            Due.LOAD, 0, Due.LOAD, 1, Due.MUL, 0, Due.LOAD, 0, Due.IF, 5, Due.DROP, 0), 1, 0, 1, 0, 6);
-        loop("a local's value is needed", code(
-            Due.LOAD, 3, Due.LOAD, 2, Due.CONST, 1, Due.ADD, 0, Due.STORE, 3, Due.LOAD, 0, Due.IF, 7, Due.STORE, 3), 1, 0, 1, 0, 6);
-        loop("a guard that is not put has no picture", code(
-            Due.LOAD, 0, Due.IF, 2, Due.LOAD, 0, Due.LOAD, 1, Due.MUL, 0, Due.LOAD, 0, Due.IF, 7, Due.DROP, 0), 0, 0, 1, 0, 6);
-        loop("a number's IF has no picture", code(
-            Due.LOAD, 0, Due.LOAD, 1, Due.MUL, 0, Due.CONST, 1, Due.IF, 5, Due.DROP, 0), 0, 0, 0, 0, 6);
-    }
-
-    private static void outs() {
-        loop("a number given out", code(Due.CONST, 7, Due.OUT, 0), 0, 0, 0, 1, 6);
-        loop("the same twice is two", code(Due.LOAD, 0, Due.OUT, 0, Due.LOAD, 0, Due.OUT, 0), 0, 0, 0, 2, 6);
-        loop("what is given out is needed", code(Due.LOAD, 0, Due.LOAD, 1, Due.ADD, 0, Due.OUT, 0), 1, 0, 0, 1, 6);
-    }
-
-    /** Traces are told in the order in which they were made, not by where they begin. */
     private static void inOrder() {
-        TraceTier x = Due.begun(6, 0,
-            Due.GOTO, 8,
-            Due.LOAD, 1, Due.CONST, 1, Due.ADD, 0, Due.STORE, 1, Due.LOAD, 1, Due.OUT, 0, Due.GOTO, 1,
-            Due.LOAD, 0, Due.CONST, 1, Due.SUB, 0, Due.DUP, 0, Due.STORE, 0, Due.IF, 8, Due.GOTO, 1);
-        x.run(500);
+        TraceTier x = two();
         Due.same("traces", x.count(5), 2);
         Due.trace("the first", x, 0, 8, 0, 1, 1, 0, 5);
         Due.trace("the second", x, 1, 1, 0, 1, 0, 1, 5);
+    }
+
+    private static void begins() {
+        Due.same("at 0", Due.traced("LOAD 0, DROP").trace(0, 0), 0);
+        TraceTier x = new TraceTier();
+        for (int i = 0; i < 39; i++) {
+            x.add(Due.GOTO, i + 1);
+        }
+        x.add(Due.GOTO, 39);
+        x.begin(0, 0, true);
+        x.run(50);
+        Due.trace("at 39", x, 0, 39, 0, 0, 0, 0, 6);
+    }
+
+    private static void head() {
+        Due.same("none", Due.traced("LOAD 2, CONST 1, ADD, STORE 2").trace(0, 1), 0);
+        Due.same("one", Due.traced("LOAD 0, LOAD 1, ADD, STORE 2").trace(0, 1), 1);
+        StringBuilder code = new StringBuilder("LOAD 0");
+        for (int n = 1; n <= 14; n++) {
+            code.append(", CONST ").append(n).append(", ADD");
+        }
+        TraceTier x = Due.run(4 * 30, 6, 7, code + ", IF 0, HALT");
+        Due.trace("fourteen of thirty instructions", x, 0, 0, 14, 0, 1, 0, 6);
+        x.run(2);
+        Due.counts("fourteen, and two guards", x, 0, 120, 2, 0, 16, 1, 0);
+    }
+
+    private static void body() {
+        Due.same("none", Due.traced("LOAD 0, LOAD 1, ADD, STORE 2").trace(0, 2), 0);
+        StringBuilder code = new StringBuilder("LOAD 2");
+        for (int n = 1; n <= 13; n++) {
+            code.append(", CONST ").append(n).append(", ADD");
+        }
+        TraceTier x = Due.traced(code + ", STORE 2");
+        Due.trace("thirteen; guards and outs are none", x, 0, 0, 0, 13, 0, 0, 5);
+        Due.trace("beside a guard and an out", State.TRACED.made(), 0, 0, 1, 1, 1, 1, 5);
+    }
+
+    /** As many as thirty instructions can have: six of locals, four of sums. */
+    private static void guards() {
+        Due.same("none", Due.traced("LOAD 2, DROP").trace(0, 3), 0);
+        StringBuilder code = new StringBuilder();
+        for (int l = 0; l < 6; l++) {
+            code.append("LOAD ").append(l).append(", IF ").append(2 * l + 2).append(", ");
+        }
+        for (int l = 0; l < 4; l++) {
+            code.append("LOAD ").append(l).append(", LOAD ").append(l).append(", ADD, IF ").append(16 + 4 * l).append(", ");
+        }
+        TraceTier x = Due.run(4 * 29, 1, 0, code + "GOTO 0");
+        Due.trace("ten", x, 0, 0, 4, 0, 10, 0, 6);
+        x.run(2);
+        Due.counts("ten", x, 0, 116, 2, 0, 24, 1, 0);
+    }
+
+    private static void outs() {
+        Due.same("none", Due.traced("LOAD 2, DROP").trace(0, 4), 0);
+        StringBuilder code = new StringBuilder("CONST 3, OUT");
+        for (int n = 1; n < 14; n++) {
+            code.append(", LOAD 1, OUT");
+        }
+        TraceTier x = Due.traced(code.toString());
+        Due.trace("fourteen", x, 0, 0, 0, 0, 0, 14, 6);
+        x.run(1);
+        Due.same("given out", x.outs(), 5 * 14);
+    }
+
+    private static void stay() {
+        Due.same("all", Due.traced("LOAD 0, DROP").trace(0, 5), 6);
+        Due.same("all but one", Due.traced("CONST 1, STORE 5").trace(0, 5), 5);
+        Due.same("none", Due.traced("LOAD 0, LOAD 1, STORE 0, LOAD 2, STORE 1, LOAD 3, STORE 2, LOAD 4, STORE 3, "
+            + "LOAD 5, STORE 4, STORE 5").trace(0, 5), 0);
+    }
+
+    private static void stays() {
+        for (State state : new State[] {State.TRACED, State.WHOLE_TURN, State.LEFT, State.HALTED}) {
+            Due.trace("when " + state, state.made(), 0, 0, 1, 1, 1, 1, 5);
+        }
+    }
+
+    private static void noTraceYet() {
+        for (State state : new State[] {State.NEW, State.CODED, State.BEGUN, State.RECORDED, State.CLEARED}) {
+            for (int what = 0; what <= 5; what++) {
+                int asked = what;
+                Refused.index("trace(0, " + what + ") when " + state, state::made, x -> x.trace(0, asked));
+            }
+        }
+    }
+
+    private static void behindTheLast() {
+        int[] none = {1, 2, 3, 4, Integer.MAX_VALUE};
+        for (int t : none) {
+            Refused.index("trace(" + t + ", 0)", x -> x.trace(t, 0));
+        }
+        Refused.index("trace(2, 0) of two", TraceTest::two, x -> x.trace(2, 0));
+        Refused.index("trace(2, 5) of two", TraceTest::two, x -> x.trace(2, 5));
+    }
+
+    private static TraceTier four() {
+        TraceTier x = new TraceTier();
+        for (int loop = 0; loop < 4; loop++) {
+            Due.append(x, "CONST 8, STORE 0, LOAD 0, CONST 1, SUB, DUP, STORE 0, IF " + (8 * loop + 2));
+        }
+        x.add(Due.HALT, 0);
+        x.begin(0, 0, true);
+        x.run(500);
+        return x;
+    }
+
+    private static void aFifth() {
+        for (int t = 0; t < 4; t++) {
+            Due.trace("of four", four(), t, 8 * t + 2, 0, 1, 1, 0, 5);
+        }
+        Refused.index("trace(4, 0) of four", TraceTest::four, x -> x.trace(4, 0));
+        Refused.index("trace(-1, 0) of four", TraceTest::four, x -> x.trace(-1, 0));
+    }
+
+    private static void below() {
+        int[] none = {-1, -4, Integer.MIN_VALUE};
+        for (int t : none) {
+            Refused.index("trace(" + t + ", 0)", x -> x.trace(t, 0));
+        }
+    }
+
+    private static void wrongWhat() {
+        int[] none = {-1, 6, 7, Integer.MIN_VALUE, Integer.MAX_VALUE};
+        for (int what : none) {
+            Refused.index("trace(0, " + what + ")", x -> x.trace(0, what));
+            Refused.index("trace(1, " + what + ") of two", TraceTest::two, x -> x.trace(1, what));
+        }
     }
 }
