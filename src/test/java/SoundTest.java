@@ -191,5 +191,9 @@ final class SoundTest {
         Due.throwsExactly("no HALT behind it any more", x, y -> y.begin(0, 0, true), IllegalArgumentException.class);
         x.add(Due.HALT, 0);
         Due.isFalse("with one: begun before", x.begin(0, 0, true));
+        TraceTier y = Due.begun(0, 0, "LOAD 0, LOAD 1, ADD, OUT, HALT");
+        y.clear();
+        Due.append(y, "HALT, ADD, ADD, ADD, ADD");
+        Due.isFalse("what was reached before is not reached now: begun before", y.begin(0, 0, true));
     }
 }
