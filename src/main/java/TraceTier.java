@@ -223,11 +223,6 @@ public final class TraceTier {
     }
 
     private void step() {
-        // Given up before the turn is looked for: with nothing recorded any more, an instruction
-        // that has a trace is a turn of it again.
-        if (recording.isFull()) {
-            giveUpRecording();
-        }
         int due = recording.isOn() ? NONE : places.traceAt[frame.next];
         if (due == NONE) {
             interpret();
@@ -255,6 +250,10 @@ public final class TraceTier {
     }
 
     private void interpret() {
+        // Given up before the instruction is done, so that a jump of its own counts again.
+        if (recording.isFull()) {
+            giveUpRecording();
+        }
         int at = frame.next;
         boolean jumped = execute(code.operations[at], code.operands[at]);
         tally.instructions++;

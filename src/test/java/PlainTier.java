@@ -30,6 +30,8 @@ final class PlainTier {
     int recordedFrom = -1;
     List<int[]> record = new ArrayList<>();
     Recorded wholeBefore;
+    /** A 31st instruction that has a trace came up: the document leaves open whether it is a turn. */
+    boolean leftOpen;
 
     PlainTier(List<int[]> code) {
         this.code = code;
@@ -244,16 +246,17 @@ final class PlainTier {
     }
 
     private void step() {
-        if (recordedFrom >= 0 && record.size() == 30) {
-            givenUp.add(recordedFrom);
-            recordedFrom = -1;
-        }
         Recorded due = traceAt(next);
         if (recordedFrom < 0 && due != null) {
             turn(due);
-        } else {
-            instruction();
+            return;
         }
+        if (recordedFrom >= 0 && record.size() == 30) {
+            leftOpen |= due != null;
+            givenUp.add(recordedFrom);
+            recordedFrom = -1;
+        }
+        instruction();
     }
 
     private void turn(Recorded t) {
