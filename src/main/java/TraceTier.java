@@ -223,6 +223,11 @@ public final class TraceTier {
     }
 
     private void step() {
+        // Given up before it is known what the step is: with nothing recorded any more, a turn is
+        // due where there is a trace, and a jump counts where there is none.
+        if (recording.isFull()) {
+            giveUpRecording();
+        }
         int due = recording.isOn() ? NONE : places.traceAt[frame.next];
         if (due == NONE) {
             interpret();
@@ -250,10 +255,6 @@ public final class TraceTier {
     }
 
     private void interpret() {
-        // Given up before the instruction is done, so that a jump of its own counts again.
-        if (recording.isFull()) {
-            giveUpRecording();
-        }
         int at = frame.next;
         boolean jumped = execute(code.operations[at], code.operands[at]);
         tally.instructions++;

@@ -30,8 +30,8 @@ final class PlainTier {
     int recordedFrom = -1;
     List<int[]> record = new ArrayList<>();
     Recorded wholeBefore;
-    /** A 31st instruction that has a trace came up: the document leaves open whether it is a turn. */
-    boolean leftOpen;
+    /** How often a 31st instruction came up that has a trace, so that its step is a turn. */
+    int turnsAfterGivingUp;
 
     PlainTier(List<int[]> code) {
         this.code = code;
@@ -247,16 +247,16 @@ final class PlainTier {
 
     private void step() {
         Recorded due = traceAt(next);
-        if (recordedFrom < 0 && due != null) {
-            turn(due);
-            return;
-        }
         if (recordedFrom >= 0 && record.size() == 30) {
-            leftOpen |= due != null;
+            turnsAfterGivingUp += due != null ? 1 : 0;
             givenUp.add(recordedFrom);
             recordedFrom = -1;
         }
-        instruction();
+        if (recordedFrom < 0 && due != null) {
+            turn(due);
+        } else {
+            instruction();
+        }
     }
 
     private void turn(Recorded t) {

@@ -19,6 +19,16 @@ final class RandomCode {
         return made.code;
     }
 
+    /**
+     * A loop round a smaller one that has many rounds: the outer one comes to be recorded when the
+     * inner one has its trace, and often has thirty instructions just where that trace begins.
+     */
+    static List<int[]> nested(Random random) {
+        RandomCode made = new RandomCode(random);
+        made.fillNested();
+        return made.code;
+    }
+
     private void put(int operation, int operand) {
         if (code.size() < 40) {
             code.add(new int[] {operation, operand});
@@ -47,6 +57,55 @@ final class RandomCode {
         if (here() == 40 || random.nextInt(8) == 0) {
             spoil();
         }
+    }
+
+    private void fillNested() {
+        put(Due.CONST, 4 + random.nextInt(12));
+        put(Due.STORE, 3);
+        if (random.nextBoolean()) {
+            put(Due.GOTO, here() + 1);
+        }
+        simple(random.nextInt(random.nextBoolean() ? 12 : 4));
+        int start = here();
+        simple(random.nextInt(3));
+        countDown(3, start);
+        if (random.nextInt(3) == 0) {
+            put(Due.GOTO, 0);
+        } else {
+            simple(random.nextInt(2));
+            countDown(0, 0);
+            put(Due.HALT, 0);
+        }
+    }
+
+    /** Statements of two instructions that leave the counters of nested loops alone. */
+    private void simple(int statements) {
+        for (int s = 0; s < statements; s++) {
+            switch (random.nextInt(4)) {
+                case 0 -> put(Due.CONST, random.nextInt(4));
+                default -> put(Due.LOAD, random.nextInt(6));
+            }
+            switch (random.nextInt(4)) {
+                case 0 -> put(Due.OUT, 0);
+                case 1 -> put(Due.STORE, 4 + random.nextInt(2));
+                default -> put(Due.DROP, 0);
+            }
+        }
+    }
+
+    private void countDown(int counter, int start) {
+        put(Due.LOAD, counter);
+        if (random.nextInt(3) == 0) {
+            put(Due.LOAD, 2);
+            put(Due.CONST, 1);
+            put(Due.ADD, 0);
+        } else {
+            put(Due.CONST, 1);
+        }
+        put(Due.SUB, 0);
+        put(Due.DUP, 0);
+        put(Due.STORE, counter);
+        put(Due.IF, start);
     }
 
     /** Code that was cut off, or one instruction of it changed: most often unsound. */

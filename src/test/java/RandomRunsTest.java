@@ -7,7 +7,7 @@ import java.util.Random;
  * more than its 512 calls.
  */
 final class RandomRunsTest {
-    private static final int PROGRAMS = 12000;
+    private static final int PROGRAMS = 14000;
 
     private final Random random;
     private final List<int[]> code;
@@ -23,11 +23,11 @@ final class RandomRunsTest {
     private static int headsMade;
     private static int givenUpOnes;
     private static int stackPictures;
-    private static int openOnes;
+    private static int turnsAfterGivingUp;
 
     private RandomRunsTest(int seed) {
         random = new Random(seed);
-        code = RandomCode.of(random);
+        code = seed % 4 == 3 ? RandomCode.nested(random) : RandomCode.of(random);
         what = "program " + seed;
     }
 
@@ -43,9 +43,10 @@ final class RandomRunsTest {
         System.out.println(soundOnes + " sound, " + unsoundOnes + " not; " + tracesMade + " traces, " + fourOnes
             + " times four; " + turnsMade + " turns, " + leavesMade + " left; " + headsMade + " heads; "
             + givenUpOnes + " with some given up; " + stackPictures + " pictures with a stack; "
-            + openOnes + " left open by the document");
+            + turnsAfterGivingUp + " turns as the step that gives up");
         Due.isTrue("enough of everything", soundOnes > 1000 && unsoundOnes > 1000 && tracesMade > 1000 && fourOnes > 5
-            && turnsMade > 10000 && leavesMade > 1000 && headsMade > 100 && givenUpOnes > 100 && stackPictures > 10);
+            && turnsMade > 10000 && leavesMade > 1000 && headsMade > 100 && givenUpOnes > 100 && stackPictures > 10
+            && turnsAfterGivingUp > 100);
     }
 
     private void runOnce() {
@@ -93,24 +94,15 @@ final class RandomRunsTest {
         int stop = random.nextInt(8);
         for (int r = 0; r < 8; r++) {
             int n = random.nextInt(3) == 0 ? 1 + random.nextInt(60) : 1 + random.nextInt(4);
-            int made = plain.run(n);
-            if (plain.leftOpen) {
-                openOnes++;
-                return;
-            }
-            Due.same(what + ": run", x.run(n), made);
+            Due.same(what + ": run", x.run(n), plain.run(n));
             Due.same(what + ": work", x.count(4), plain.work);
             Due.same(what + ": the next instruction", x.count(0), plain.halted ? TraceTier.NONE : plain.next);
             if (r == stop) {
                 Due.same(what, Shown.of(x), plain.shown());
             }
         }
-        plain.run(500);
         x.run(500);
-        if (plain.leftOpen) {
-            openOnes++;
-            return;
-        }
+        plain.run(500);
         Due.same(what, Shown.of(x), plain.shown());
     }
 
@@ -119,6 +111,7 @@ final class RandomRunsTest {
         fourOnes += plain.traces.size() == 4 ? 1 : 0;
         turnsMade += plain.wholeTurns;
         leavesMade += plain.leaves;
+        turnsAfterGivingUp += plain.turnsAfterGivingUp;
         givenUpOnes += plain.givenUp.isEmpty() ? 0 : 1;
         for (PlainTier.Recorded t : plain.traces) {
             headsMade += t.tell(1) > 0 ? 1 : 0;

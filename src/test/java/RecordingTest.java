@@ -27,7 +27,14 @@ final class RecordingTest {
         Due.test("When a 31st instruction would be recorded [..], it is given up", RecordingTest::aThirtyFirst);
         Due.test("a 31st: thirty are a trace", RecordingTest::thirty);
         Due.test("(before that is done): it is done as if nothing were recorded", RecordingTest::beforeThatIsDone);
-        Due.test("(before that is done): also when it has a trace", RecordingTest::theThirtyFirstHasATrace);
+        Due.test("(before that is done) [..] nothing is recorded any more: when the 31st has a trace, it is a turn",
+            RecordingTest::thenATurn);
+        Due.test("(before that is done) [..] nothing is recorded any more: the turn may be left",
+            RecordingTest::thenATurnThatIsLeft);
+        Due.test("(before that is done) [..] nothing is recorded any more: the turn's head is done first",
+            RecordingTest::thenATurnWithItsHead);
+        Due.test("(before that is done) [..] nothing is recorded any more: the 31st is come to without a jump",
+            RecordingTest::thenATurnByGoingOn);
         Due.test("it is given up, and nothing is recorded any more: another can be", RecordingTest::anotherCanBe);
         Due.test("or HALT is done, it is given up, and nothing is recorded any more", RecordingTest::halt);
         Due.test("or HALT is done: as the thirtieth, and as the thirty-first", RecordingTest::lateHalt);
@@ -264,13 +271,14 @@ final class RecordingTest {
         Due.place("and makes a count grow", x, 4, 1, 0);
     }
 
-    /**
-     * The 31st instruction of a round from 0 is where the inner loop's trace begins. Whether that
-     * step is then a turn or an instruction, the document leaves open, so it is not asked.
-     */
-    private static void theThirtyFirstHasATrace() {
-        TraceTier x = Due.run(30, 0, 0, "CONST 9, STORE 3, LOAD 0, DROP, LOAD 0, DROP, "
-            + "LOAD 3, CONST 1, SUB, DUP, STORE 3, IF 6, GOTO 0");
+    /** An outer loop from 0, whose first six instructions set local 3, by which the inner one at 6 counts down. */
+    private static String nested(int rounds, String inner) {
+        return "CONST " + rounds + ", STORE 3, LOAD 0, DROP, LOAD 0, DROP, " + inner + ", GOTO 0";
+    }
+
+    /** The 31st instruction of a round from 0 is where the inner loop's trace begins. */
+    private static void thenATurn() {
+        TraceTier x = Due.run(30, 0, 0, nested(9, "LOAD 3, CONST 1, SUB, DUP, STORE 3, IF 6"));
         Due.place("the inner loop's trace", x, 6, 3, 1);
         x.run(5 + 1 + 16 + 16);
         Due.counts("recorded from 0", x, 0, 45, 20, 3, 46, 1, 1);
@@ -278,10 +286,47 @@ final class RecordingTest {
         Due.counts("thirty", x, 6, 75, 20, 3, 46, 1, 1);
         Due.place("thirty", x, 0, 3, 0);
         Due.same("one step", x.run(1), 1);
-        Due.same("an instruction, or a whole turn", x.count(1) + x.count(2), 96);
-        Due.same("nothing recorded", x.count(6), 0);
+        Due.counts("a whole turn", x, 6, 75, 21, 3, 48, 1, 0);
+        Due.locals("a whole turn", x, 0, 0, 0, 4, 0, 0);
         Due.place("given up", x, 0, 3, 2);
         Due.place("no count grows where the trace is", x, 6, 3, 1);
+        x.run(4);
+        Due.counts("to the end of the inner loop", x, 12, 75, 24, 4, 56, 1, 0);
+        TraceTier y = Due.run(30 + 38 + 30 + 5, 0, 0, nested(9, "LOAD 3, CONST 1, SUB, DUP, STORE 3, IF 6"));
+        Due.same("in one run", Shown.of(y), Shown.of(x));
+    }
+
+    private static void thenATurnThatIsLeft() {
+        TraceTier x = Due.run(32 + 12 + 12 + 30, 0, 0, nested(5, "LOAD 3, CONST 1, SUB, DUP, STORE 3, IF 6"));
+        Due.counts("thirty", x, 6, 75, 8, 3, 22, 1, 1);
+        x.run(1);
+        Due.counts("left", x, 12, 75, 8, 4, 24, 1, 0);
+        Due.locals("left", x, 0, 0, 0, 0, 0, 0);
+        Due.place("given up", x, 0, 3, 2);
+    }
+
+    /** The inner loop takes local 1 and 1 from local 3, and their sum is its trace's head. */
+    private static void thenATurnWithItsHead() {
+        TraceTier x = Due.run(44 + 16 + 16 + 30, 0, 0, nested(9, "LOAD 3, LOAD 1, CONST 1, ADD, SUB, DUP, STORE 3, IF 6"));
+        Due.trace("the inner loop", x, 0, 6, 1, 1, 1, 0, 5);
+        Due.counts("thirty", x, 6, 83, 20, 3, 49, 1, 1);
+        x.run(1);
+        Due.counts("with its head", x, 6, 83, 21, 3, 52, 1, 0);
+        x.run(1);
+        Due.counts("the next without", x, 6, 83, 22, 3, 54, 1, 0);
+    }
+
+    /** The thirty go on to the inner loop, at 30, without a jump. */
+    private static void thenATurnByGoingOn() {
+        StringBuilder code = new StringBuilder("CONST 9, STORE 3, ");
+        for (int pair = 0; pair < 14; pair++) {
+            code.append("LOAD 0, DROP, ");
+        }
+        TraceTier x = Due.run(60 + 40 + 40 + 30, 0, 0, code + "LOAD 3, CONST 1, SUB, DUP, STORE 3, IF 30, GOTO 0");
+        Due.counts("thirty", x, 30, 147, 20, 3, 46, 1, 1);
+        x.run(1);
+        Due.counts("a whole turn", x, 30, 147, 21, 3, 48, 1, 0);
+        Due.place("given up", x, 0, 3, 2);
     }
 
     private static void anotherCanBe() {
